@@ -150,5 +150,9 @@ final class MailsTest {
                 "arrive(20, 1, 1, 5) = 6", "missing() = 2",
                 "arrive(25, 1, 1, 0) = 7", "missing() = 1",
                 "arrive(5, 1, 1, 0) = 8", "missing() = 0");
+        results.rows("promise 9: the first mail's missing date counts, too",
+                "arrive(30, 0, 0, 20) = 0", "missing() = 1", "arrive(31, 0, 0, 20) = 1",
+                "missing() = 1", "arrive(32, 0, 0, 30) = 2", "missing() = 1",
+                "arrive(20, 0, 0, 0) = 3", "missing() = 0");
     }
 }

@@ -38,6 +38,20 @@ final class QuotingTest {
                 "addLine(1, 3, 1) = 3", "aligned(1) = 2", "partner(1, 2) = 2",
                 "addLine(1, 1, 1) = 4", "aligned(1) = 2", "alignedByTrying(1) = 2",
                 "addLine(1, 3, 2) = 5", "aligned(1) = 2", "alignedByTrying(1) = 2");
+        results.rows("promises 10 and 11: each line of either mail is used once at most",
+                "arrive(10, 0, 0, 0) = 0", "arrive(20, 1, 1, 10) = 1", "arrive(30, 1, 1, 10) = 2",
+                "addLine(0, 0, 1) = 1", "addLine(0, 0, 1) = 2", "addLine(1, 1, 1) = 1",
+                "aligned(1) = 1", "alignedByTrying(1) = 1",
+                "addLine(2, 1, 1) = 1", "addLine(2, 1, 1) = 2", "addLine(2, 1, 1) = 3",
+                "aligned(2) = 2", "alignedByTrying(2) = 2",
+                "aligned(1) = 1", "alignedByTrying(2) = 2", "alignedByTrying(1) = 1",
+                "aligned(2) = 2");
+        results.rows("promises 10 and 11: a line that was removed has no partner",
+                "arrive(10, 0, 0, 0) = 0", "arrive(20, 1, 1, 10) = 1",
+                "addLine(0, 0, 1) = 1", "addLine(0, 0, 2) = 2", "addLine(1, 1, 1) = 1",
+                "addLine(1, 1, 2) = 2", "aligned(1) = 2", "removeLine(1) = 1",
+                "aligned(1) = 1", "alignedByTrying(1) = 1", "removeLine(0) = 1",
+                "removeLine(0) = 0", "aligned(1) = 0", "alignedByTrying(1) = 0");
         results.rows("promises 10 and 11: 8 lines with 8 partners, none without the parent",
                 "arrive(20, 1, 1, 10) = 0",
                 "addLine(0, 1, 5)", "addLine(0, 1, 5)", "addLine(0, 1, 5)", "addLine(0, 1, 5)",

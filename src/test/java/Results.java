@@ -18,8 +18,8 @@ final class Results {
      * One test of rows such as "addLine(0, 1, 5) = 1", in their order, on a new object; a row
      * without " = " is a call whose answer does not matter here. The same rows are asked of the
      * plain reader, so that it is as trustworthy as the rows are. At the end, an object on which
-     * only the changes were made that did not throw must answer everything alike: no exception
-     * and no question may have changed anything.
+     * only the changes were made that did not throw must answer everything alike, as no exception
+     * and no question may have changed anything; and so must the plain reader.
      */
     void rows(String name, String... rows) {
         TalkRebuilder reader = new TalkRebuilder();
@@ -43,8 +43,13 @@ final class Results {
                 Calls.answer(changesAlone, parts[0]);
             }
         }
-        if (!Calls.everything(reader).equals(Calls.everything(changesAlone))) {
+        String everything = Calls.everything(reader);
+        if (!everything.equals(Calls.everything(changesAlone))) {
             faults.append("  an exception or a question has changed something\n");
+        }
+        if (!everything.equals(Calls.everything(plain))) {
+            faults.append("  at the end, it answers\n").append(everything)
+                    .append("  but the plain reader\n").append(Calls.everything(plain));
         }
         record(name, faults.toString());
     }
