@@ -12,6 +12,11 @@ public final class AllTests {
         QuotingTest.run(results);
         TalkTest.run(results);
         ThreadsTest.run(results);
+        TermsBoundsTest.run(results);
+        MailsBoundsTest.run(results);
+        QuotingBoundsTest.run(results);
+        TalkBoundsTest.run(results);
+        ThreadsBoundsTest.run(results);
         RandomRunsTest.run(results, RANDOM_RUNS);
         if (!results.sum()) {
             System.exit(1);

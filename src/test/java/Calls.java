@@ -1,6 +1,5 @@
 import java.lang.reflect.InvocationTargetException;
 import java.lang.reflect.Method;
-import java.util.Arrays;
 
 /**
  * Makes calls that are written as text, such as "addLine(0, 1, 5)", on any object that has the
@@ -42,34 +41,5 @@ final class Calls {
     static boolean isChange(String call) {
         return call.startsWith("arrive(") || call.startsWith("addLine(")
                 || call.startsWith("removeLine(");
-    }
-
-    /** The answers of all calls that only ask, for every mail and every line. */
-    static String everything(Object reader) {
-        StringBuilder all = new StringBuilder();
-        for (String name : new String[] {"mails", "missing", "talk", "talkByOrigins", "threads",
-            "newShare", "meanSize"}) {
-            add(all, reader, name);
-        }
-        int mails = Integer.parseInt(answerTo(reader, "mails"));
-        for (int mail = 0; mail < mails; mail++) {
-            for (String name : new String[] {"lines", "parent", "aligned", "alignedByTrying",
-                "signature", "root", "rootByRounds", "size"}) {
-                add(all, reader, name, mail);
-            }
-            int lines = Integer.parseInt(answerTo(reader, "lines", mail));
-            for (int line = 0; line < lines; line++) {
-                for (String name : new String[] {"word", "partner", "originMail", "originLine",
-                    "kind", "answersMail", "answersLine", "answers", "copies"}) {
-                    add(all, reader, name, mail, line);
-                }
-            }
-        }
-        return all.toString();
-    }
-
-    private static void add(StringBuilder all, Object reader, String name, int... arguments) {
-        all.append(name).append(Arrays.toString(arguments)).append(" = ")
-                .append(answerTo(reader, name, arguments)).append('\n');
     }
 }

@@ -1,0 +1,96 @@
+import java.util.ArrayList;
+import java.util.Arrays;
+import java.util.List;
+
+/** Calls that fill a new object: from no mails at all to ten mails with eight lines each. */
+final class Boxes {
+    static final String[] EMPTY = {};
+    static final String[] ONE_MAIL = {"arrive(50, 0, 0, 0)"};
+    /** Four mails with lines of every kind; the last mail has no lines. */
+    static final String[] SMALL = {
+        "arrive(20, 1, 3, 10)", "arrive(30, 2, 3, 20)", "arrive(40, 1, 4, 30)",
+        "arrive(50, 0, 0, 0)",
+        "addLine(0, 1, 7)", "addLine(0, 1, 7)", "addLine(0, 0, 8)", "addLine(0, 0, 9)",
+        "addLine(1, 2, 7)", "addLine(1, 1, 8)", "addLine(1, 0, 11)", "addLine(1, 1, 60)",
+        "addLine(2, 3, 7)", "addLine(2, 0, 12)", "addLine(2, 0, 9)",
+    };
+    /** Ten mails with eight lines each, of every kind. */
+    static final String[] FULL = full();
+
+    private static final int MOST_MAILS = 10;
+    private static final int MOST_LINES = 8;
+
+    private Boxes() {
+    }
+
+    /** So many mails that answer none, of dates 1, 2, 3 and so on and of one author. */
+    static String[] mails(int count) {
+        String[] calls = new String[count];
+        for (int mail = 0; mail < count; mail++) {
+            calls[mail] = "arrive(" + (mail + 1) + ", 0, 0, 0)";
+        }
+        return calls;
+    }
+
+    /** So many mails that all answer the mail of date 1; they have the dates 2, 3 and so on. */
+    static String[] answersToDateOne(int count) {
+        String[] calls = new String[count];
+        for (int mail = 0; mail < count; mail++) {
+            calls[mail] = "arrive(" + (mail + 2) + ", 1, 0, 1)";
+        }
+        return calls;
+    }
+
+    /** Adds so many lines with the same marks; their words count up from the first one. */
+    static String[] lines(int mail, int count, int marks, int firstWord) {
+        String[] calls = new String[count];
+        for (int line = 0; line < count; line++) {
+            calls[line] = "addLine(" + mail + ", " + marks + ", " + (firstWord + line) + ")";
+        }
+        return calls;
+    }
+
+    /** Ten mails that answer none, with eight lines each, of 80 words without marks. */
+    static String[] eightyNewLines() {
+        List<String> calls = new ArrayList<>(Arrays.asList(mails(MOST_MAILS)));
+        for (int mail = 0; mail < MOST_MAILS; mail++) {
+            calls.addAll(Arrays.asList(lines(mail, MOST_LINES, 0, 1 + MOST_LINES * mail)));
+        }
+        return calls.toArray(new String[0]);
+    }
+
+    static String[] join(String[]... parts) {
+        List<String> all = new ArrayList<>();
+        for (String[] part : parts) {
+            all.addAll(Arrays.asList(part));
+        }
+        return all.toArray(new String[0]);
+    }
+
+    private static String[] full() {
+        String[] mails = {
+            "arrive(50, 0, 0, 40)", "arrive(40, 1, 0, 20)", "arrive(60, 2, 0, 50)",
+            "arrive(45, 3, 9, 20)", "arrive(70, 4, 1, 60)", "arrive(80, 5, 2, 0)",
+            "arrive(1, 0, 9, 0)", "arrive(99, 1, 9, 1)", "arrive(30, 2, 3, 21)",
+            "arrive(90, 3, 2, 80)",
+        };
+        return join(mails,
+                fill(0, 25, 132, 5, 133, 6, 30, 7, 8), fill(1, 105, 32, 105, 205, 33, 6, 90, 91),
+                fill(2, 225, 40, 105, 41, 106, 42, 7, 8), fill(3, 105, 106, 43, 206, 44, 45, 1, 2),
+                fill(4, 325, 46, 205, 141, 47, 48, 206, 49),
+                fill(5, 10, 10, 10, 10, 10, 10, 10, 10),
+                fill(6, 10, 11, 12, 13, 14, 6, 7, 8), fill(7, 111, 50, 110, 51, 113, 6, 90, 91),
+                fill(8, 105, 310, 105, 205, 106, 52, 7, 8),
+                fill(9, 110, 110, 110, 110, 110, 110, 110, 1));
+    }
+
+    /** Each number is a line: its marks in the hundreds, its word below. */
+    private static String[] fill(int mail, int... marksAndWords) {
+        String[] calls = new String[marksAndWords.length];
+        for (int line = 0; line < calls.length; line++) {
+            calls[line] = "addLine(" + mail + ", " + marksAndWords[line] / 100 + ", "
+                    + marksAndWords[line] % 100 + ")";
+        }
+        return calls;
+    }
+}
