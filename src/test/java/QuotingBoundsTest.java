@@ -62,8 +62,8 @@ final class QuotingBoundsTest {
                         "arrive(97, 2, 0, 0) = 9", "addLine(8, 1, 8)", first + 2, name + "(8) = 0",
                         "addLine(9, 0, 8)", name + "(8) = 1", name + "(9) = 0"}));
         results.rows(returned + "after the other mails were asked", Boxes.join(Boxes.FULL,
-                new String[] {name + "(0)", name + "(1) = 0", name + "(0)", name + "(9) = 7",
-                    name + "(5) = 0", name + "(9) = 7"}));
+                new String[] {name + "(0)", name + "(1) = 0", name + "(0)", name + "(9) = 6",
+                    name + "(5) = 0", name + "(9) = 6"}));
     }
 
     private static void partner(Results results) {
@@ -156,8 +156,9 @@ final class QuotingBoundsTest {
         results.rows("promise 15 | Returns 's', 'n', 'q', 'r', 'd' or 'x'. | first and last lines"
                 + " of the first and the last mail of a full box",
                 Boxes.join(Boxes.FULL, new String[] {"kind(0, 0) = n", "kind(0, 7) = s",
-                    "kind(9, 0) = q", "kind(9, 6) = q", "kind(9, 7) = n", "kind(5, 7) = n",
-                    "kind(1, 0) = r", "kind(1, 2) = d"}));
+                    "kind(9, 0) = q", "kind(9, 5) = q", "kind(9, 6) = s", "kind(9, 7) = s",
+                    "kind(5, 5) = n", "kind(5, 6) = s", "kind(1, 0) = r", "kind(1, 2) = d",
+                    "kind(8, 1) = x"}));
         results.rows("promise 15 | Returns 's', 'n', 'q', 'r', 'd' or 'x'. | all 8 lines of a mail"
                 + " are new, quoted, recovered, double or stray",
                 Boxes.join(new String[] {"arrive(10, 0, 0, 0)", "arrive(20, 1, 0, 10)",

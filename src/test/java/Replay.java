@@ -22,6 +22,8 @@ final class Replay {
     };
     /** Changes of every mail, whether it is there or not, that show what a question can't. */
     private static final List<String> CHANGES = changes();
+    /** Mails of all dates, which show by what they are refused which dates are had. */
+    private static final List<String> ARRIVALS = arrivals();
 
     private Replay() {
     }
@@ -39,17 +41,20 @@ final class Replay {
         return answers(maker, calls, questions(after(maker, calls)));
     }
 
-    /** Everything, then the answers of further changes, and everything after these. */
+    /**
+     * Everything, then the answers of further changes, and everything after these: two objects
+     * that are alike in this are alike in all that they hold of mails and lines.
+     */
     static String futureAfter(Supplier<?> maker, List<String> calls) {
         List<String> longer = new ArrayList<>(calls);
         longer.addAll(CHANGES);
         return everythingAfter(maker, calls) + answers(maker, calls, CHANGES)
-                + everythingAfter(maker, longer);
+                + everythingAfter(maker, longer) + answers(maker, calls, ARRIVALS);
     }
 
     private static String answers(Supplier<?> maker, List<String> calls, List<String> questions) {
         int portion = MOST_CALLS - calls.size();
-        if (portion < CHANGES.size()) {
+        if (portion < ARRIVALS.size()) {
             throw new IllegalArgumentException("too many calls ahead of the questions");
         }
         StringBuilder all = new StringBuilder();
@@ -87,12 +92,21 @@ final class Replay {
 
     private static List<String> changes() {
         List<String> changes = new ArrayList<>(Arrays.asList("arrive(98, 5, 9, 97)",
-                "arrive(97, 0, 9, 20)", "arrive(98, 5, 9, 0)"));
+                "arrive(97, 3, 9, 20)", "arrive(96, 4, 3, 0)", "arrive(98, 5, 9, 0)"));
         for (int mail = 0; mail < 10; mail++) {
+            changes.add("removeLine(" + mail + ")");
             changes.add("removeLine(" + mail + ")");
             changes.add("addLine(" + mail + ", 1, 7)");
             changes.add("addLine(" + mail + ", 0, 98)");
         }
         return changes;
+    }
+
+    private static List<String> arrivals() {
+        List<String> arrivals = new ArrayList<>();
+        for (int date = 1; date <= 99; date++) {
+            arrivals.add("arrive(" + date + ", 0, 0, 0)");
+        }
+        return arrivals;
     }
 }
