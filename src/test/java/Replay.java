@@ -42,8 +42,8 @@ final class Replay {
     }
 
     /**
-     * Everything, then the answers of further changes, and everything after these: two objects
-     * that are alike in this are alike in all that they hold of mails and lines.
+     * Everything, then the answers of further changes and everything after these, so that what no
+     * question shows at once is found, too.
      */
     static String futureAfter(Supplier<?> maker, List<String> calls) {
         List<String> longer = new ArrayList<>(calls);

@@ -38,22 +38,48 @@ final class TermsBoundsTest {
     }
 
     private static void calls(Results results) {
+        String sentence = "what it is | An object is used for at most 512 calls after it has been"
+                + " made | each of 512 is answered, ";
+        results.record(sentence + "on a full box", faultsOf512(Boxes.FULL, "alignedByTrying(9)",
+                "talk()", "answers(1, 0)", "talkByOrigins()", "copies(1, 0)", "newShare()",
+                "rootByRounds(4)", "kind(9, 7)"));
+        results.record(sentence + "of which the last ones fill the box",
+                faultsOf512(Boxes.join(questionsAhead(), Boxes.FULL), "talk()"));
+        for (String call : new String[] {"arrive(20, 0, 0, 0)", "mails()", "lines(0)",
+            "word(0, 0)", "parent(1)", "missing()", "aligned(1)", "alignedByTrying(1)",
+            "partner(1, 0)", "originMail(1, 0)", "originLine(1, 0)", "kind(0, 0)", "signature(0)",
+            "answersMail(1, 2)", "answersLine(1, 2)", "answers(0, 2)", "talk()",
+            "talkByOrigins()", "copies(0, 0)", "root(1)", "rootByRounds(1)", "threads()",
+            "size(0)", "newShare()", "meanSize()"}) {
+            results.record(sentence + "all of them " + call, faultsOf512(Boxes.SMALL, call));
+        }
+        results.record(sentence + "lines that come and go", faultsOf512(Boxes.SMALL,
+                "addLine(0, 0, 5)", "removeLine(0)"));
+    }
+
+    private static String[] questionsAhead() {
+        String[] questions = new String[512 - Boxes.FULL.length];
+        for (int asked = 0; asked < questions.length; asked++) {
+            questions[asked] = asked % 2 == 0 ? "meanSize()" : "lines(0)";
+        }
+        return questions;
+    }
+
+    /** Makes the first calls, then the others again and again, up to 512 in all. */
+    private static String faultsOf512(String[] first, String... others) {
         TalkRebuilder reader = new TalkRebuilder();
         PlainReader plain = new PlainReader();
-        String[] questions = {"alignedByTrying(9)", "talk()", "answers(1, 0)", "talkByOrigins()",
-            "copies(1, 0)", "newShare()", "rootByRounds(4)", "kind(9, 7)"};
         StringBuilder faults = new StringBuilder();
         for (int made = 0; made < 512; made++) {
-            String call = made < Boxes.FULL.length ? Boxes.FULL[made]
-                    : questions[made % questions.length];
+            String call = made < first.length ? first[made]
+                    : others[(made - first.length) % others.length];
             String got = Calls.answer(reader, call);
             if (!got.equals(Calls.answer(plain, call))) {
                 faults.append("  call ").append(made + 1).append(": ").append(call)
                         .append(" answered ").append(got).append('\n');
             }
         }
-        results.record("what it is | An object is used for at most 512 calls after it has been"
-                + " made | each of 512 is answered", faults.toString());
+        return faults.toString();
     }
 
     private static void questions(Results results) {
