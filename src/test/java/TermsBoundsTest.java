@@ -53,6 +53,8 @@ final class TermsBoundsTest {
             "size(0)", "newShare()", "meanSize()"}) {
             results.record(sentence + "all of them " + call, faultsOf512(Boxes.SMALL, call));
         }
+        results.record(sentence + "all but one mails()",
+                faultsOf512(Boxes.ONE_MAIL, "mails()"));
         results.record(sentence + "lines that come and go", faultsOf512(Boxes.SMALL,
                 "addLine(0, 0, 5)", "removeLine(0)"));
     }
