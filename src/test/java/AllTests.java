@@ -8,6 +8,9 @@ public final class AllTests {
     public static void main(String[] arguments) {
         Results results = new Results();
         FaceTest.run(results);
+        LanguageTest.run(results);
+        ReadmeTest.run(results);
+        OverviewTest.run(results);
         MailsTest.run(results);
         QuotingTest.run(results);
         TalkTest.run(results);
@@ -17,6 +20,9 @@ public final class AllTests {
         QuotingBoundsTest.run(results);
         TalkBoundsTest.run(results);
         ThreadsBoundsTest.run(results);
+        QuotingRelationsTest.run(results);
+        TalkRelationsTest.run(results);
+        AlignmentsTest.run(results);
         RandomRunsTest.run(results, RANDOM_RUNS);
         if (!results.sum()) {
             System.exit(1);

@@ -1,6 +1,8 @@
 import java.util.ArrayList;
 import java.util.Arrays;
+import java.util.Collections;
 import java.util.List;
+import java.util.Random;
 
 /** Calls that fill a new object: from no mails at all to ten mails with eight lines each. */
 final class Boxes {
@@ -19,6 +21,7 @@ final class Boxes {
 
     private static final int MOST_MAILS = 10;
     private static final int MOST_LINES = 8;
+    private static final int STEPS = 100;
 
     private Boxes() {
     }
@@ -57,6 +60,46 @@ final class Boxes {
             calls.addAll(Arrays.asList(lines(mail, MOST_LINES, 0, 1 + MOST_LINES * mail)));
         }
         return calls.toArray(new String[0]);
+    }
+
+    /**
+     * Calls that look random but are the same for the same seed: mails arrive and lines come and
+     * go in any order, and no call is refused. Few words and dates make the rare cases common.
+     */
+    static List<String> random(int seed) {
+        Random random = new Random(seed);
+        List<Integer> dates = shuffledDates(random);
+        int[] lineCounts = new int[MOST_MAILS];
+        int words = 2 + random.nextInt(3);
+        int marks = 2 + random.nextInt(3);
+        int mails = 0;
+        List<String> calls = new ArrayList<>();
+        for (int step = 0; step < STEPS; step++) {
+            int mail = random.nextInt(MOST_MAILS);
+            if (mail >= mails) {
+                int date = dates.get(mails);
+                calls.add("arrive(" + date + ", " + random.nextInt(3) + ", " + random.nextInt(2)
+                        + ", " + random.nextInt(date) + ")");
+                mails++;
+            } else if (lineCounts[mail] > 0 && random.nextInt(8) == 0) {
+                calls.add("removeLine(" + mail + ")");
+                lineCounts[mail]--;
+            } else if (lineCounts[mail] < MOST_LINES) {
+                calls.add("addLine(" + mail + ", " + random.nextInt(marks) + ", "
+                        + (1 + random.nextInt(words)) + ")");
+                lineCounts[mail]++;
+            }
+        }
+        return calls;
+    }
+
+    private static List<Integer> shuffledDates(Random random) {
+        List<Integer> dates = new ArrayList<>();
+        for (int date = 1; date <= MOST_MAILS + 3; date++) {
+            dates.add(date);
+        }
+        Collections.shuffle(dates, random);
+        return dates;
     }
 
     static String[] join(String[]... parts) {

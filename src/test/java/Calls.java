@@ -6,22 +6,43 @@ import java.lang.reflect.Method;
  * methods. The answer is a text too: the value, or "throws." with the name of the exception.
  */
 final class Calls {
+    /** An object is promised to answer so many calls. */
+    static final int MOST = 512;
+    /** The calls that only ask: of the whole box, of a mail, and of a line. */
+    static final String[] ASK_ALL = {
+        "mails", "missing", "talk", "talkByOrigins", "threads", "newShare", "meanSize",
+    };
+    static final String[] ASK_MAIL = {
+        "lines", "parent", "aligned", "alignedByTrying", "signature", "root", "rootByRounds",
+        "size",
+    };
+    static final String[] ASK_LINE = {
+        "word", "partner", "originMail", "originLine", "kind", "answersMail", "answersLine",
+        "answers", "copies",
+    };
+
     private Calls() {
     }
 
     static String answer(Object reader, String call) {
-        int open = call.indexOf('(');
-        String name = call.substring(0, open);
-        String inside = call.substring(open + 1, call.lastIndexOf(')')).trim();
+        return answerTo(reader, nameOf(call), argumentsOf(call));
+    }
+
+    static String nameOf(String call) {
+        return call.substring(0, call.indexOf('('));
+    }
+
+    static int[] argumentsOf(String call) {
+        String inside = call.substring(call.indexOf('(') + 1, call.lastIndexOf(')')).trim();
         String[] parts = inside.isEmpty() ? new String[0] : inside.split(",");
         int[] arguments = new int[parts.length];
         for (int i = 0; i < parts.length; i++) {
             arguments[i] = Integer.parseInt(parts[i].trim());
         }
-        return answerTo(reader, name, arguments);
+        return arguments;
     }
 
-    private static String answerTo(Object reader, String name, int... arguments) {
+    static String answerTo(Object reader, String name, int... arguments) {
         Class<?>[] types = new Class<?>[arguments.length];
         Object[] values = new Object[arguments.length];
         for (int i = 0; i < arguments.length; i++) {

@@ -1,11 +1,19 @@
+import java.io.IOException;
+import java.io.UncheckedIOException;
 import java.lang.reflect.Constructor;
 import java.lang.reflect.Field;
 import java.lang.reflect.Method;
 import java.lang.reflect.Modifier;
+import java.nio.file.Files;
+import java.nio.file.Path;
+import java.util.ArrayList;
 import java.util.Arrays;
 import java.util.HashSet;
+import java.util.List;
 import java.util.Set;
 import java.util.TreeSet;
+import java.util.regex.Matcher;
+import java.util.regex.Pattern;
 
 /** The face: the members of the document, what they declare to throw, and no other members. */
 final class FaceTest {
@@ -42,6 +50,19 @@ final class FaceTest {
         "double meanSize() throws ArithmeticException",
     };
 
+    /** The face's calls in their order, with what the interface says ahead of them. */
+    private static final String[] INTERFACE = {
+        "TalkRebuilder",
+        "---- mails", "arrive", "addLine", "removeLine", "mails", "lines", "word", "parent",
+        "missing",
+        "---- quoting", "aligned", "alignedByTrying", "partner", "originMail", "originLine",
+        "kind", "signature",
+        "---- talk", "answersMail", "answersLine", "answers", "talk", "talkByOrigins", "copies",
+        "---- threads", "root", "rootByRounds", "threads", "size", "newShare", "meanSize",
+    };
+    private static final Pattern SAID = Pattern.compile(
+            "^    (?:// (---- .*)|public (?:\\w+ )?(\\w+)\\(.*)$");
+
     private FaceTest() {
     }
 
@@ -49,6 +70,40 @@ final class FaceTest {
         results.record("the face: methods", differences());
         results.record("the face: class and constructor", classFaults());
         results.record("the face: all else is private", memberFaults());
+        results.record("the face: classes inside are private and static", nestedFaults());
+        results.record("terms | Ahead of the calls .. the interface says: ---- mails, ---- quoting,"
+                + " ---- talk, ---- threads", interfaceFaults());
+    }
+
+    private static String nestedFaults() {
+        StringBuilder faults = new StringBuilder();
+        for (Class<?> inside : TalkRebuilder.class.getDeclaredClasses()) {
+            int modifiers = inside.getModifiers();
+            if (!Modifier.isPrivate(modifiers) || !Modifier.isStatic(modifiers)) {
+                faults.append("  not private and static: ").append(inside).append('\n');
+            }
+        }
+        return faults.toString();
+    }
+
+    private static String interfaceFaults() {
+        List<String> got = new ArrayList<>();
+        for (String line : programLines()) {
+            Matcher said = SAID.matcher(line);
+            if (said.matches() && got.size() < INTERFACE.length) {
+                got.add(said.group(1) == null ? said.group(2) : said.group(1));
+            }
+        }
+        List<String> due = Arrays.asList(INTERFACE);
+        return got.equals(due) ? "" : "  got " + got + "\n  due " + due;
+    }
+
+    private static List<String> programLines() {
+        try {
+            return Files.readAllLines(Path.of("src/main/java/TalkRebuilder.java"));
+        } catch (IOException unread) {
+            throw new UncheckedIOException(unread);
+        }
     }
 
     private static String differences() {

@@ -5,19 +5,6 @@ import java.util.Random;
  * that of the plain reader. Few words, dates and authors make the rare cases common.
  */
 final class RandomRunsTest {
-    private static final int CALLS_OF_A_RUN = 512;
-    private static final String[] ASK_ALL = {
-        "mails", "missing", "talk", "talkByOrigins", "threads", "newShare", "meanSize",
-    };
-    private static final String[] ASK_MAIL = {
-        "lines", "parent", "aligned", "alignedByTrying", "signature", "root", "rootByRounds",
-        "size",
-    };
-    private static final String[] ASK_LINE = {
-        "word", "partner", "originMail", "originLine", "kind", "answersMail", "answersLine",
-        "answers", "copies",
-    };
-
     private final Random random;
     private final int words;
     private final int dates;
@@ -46,7 +33,7 @@ final class RandomRunsTest {
         TalkRebuilder reader = new TalkRebuilder();
         PlainReader plain = new PlainReader();
         StringBuilder calls = new StringBuilder();
-        for (int made = 0; made < CALLS_OF_A_RUN; made++) {
+        for (int made = 0; made < Calls.MOST; made++) {
             String call = nextCall(made);
             String got = Calls.answer(reader, call);
             String due = Calls.answer(plain, call);
@@ -60,7 +47,7 @@ final class RandomRunsTest {
 
     /** Changes in the first half, so that the second half asks of a full box. */
     private String nextCall(int made) {
-        boolean changes = random.nextInt(100) < (made < CALLS_OF_A_RUN / 2 ? 70 : 10);
+        boolean changes = random.nextInt(100) < (made < Calls.MOST / 2 ? 70 : 10);
         if (random.nextInt(60) == 0) {
             return wrongCall();
         }
@@ -83,14 +70,16 @@ final class RandomRunsTest {
 
     private String question() {
         int choice = random.nextInt(24);
-        if (choice < ASK_ALL.length) {
-            return call(ASK_ALL[choice]);
+        if (choice < Calls.ASK_ALL.length) {
+            return call(Calls.ASK_ALL[choice]);
         }
-        if (choice < ASK_ALL.length + ASK_MAIL.length) {
-            return call(ASK_MAIL[choice - ASK_ALL.length], someMail());
+        choice -= Calls.ASK_ALL.length;
+        if (choice < Calls.ASK_MAIL.length) {
+            return call(Calls.ASK_MAIL[choice], someMail());
         }
+        choice -= Calls.ASK_MAIL.length;
         int line = random.nextInt(20) == 0 ? random.nextInt(10) - 1 : random.nextInt(8);
-        return call(ASK_LINE[choice - ASK_ALL.length - ASK_MAIL.length], someMail(), line);
+        return call(Calls.ASK_LINE[choice], someMail(), line);
     }
 
     private int someMail() {
@@ -106,7 +95,7 @@ final class RandomRunsTest {
         if (random.nextBoolean()) {
             return call("addLine", someMail(), random.nextInt(8) - 2, random.nextInt(104) - 2);
         }
-        String name = ASK_LINE[random.nextInt(ASK_LINE.length)];
+        String name = Calls.ASK_LINE[random.nextInt(Calls.ASK_LINE.length)];
         return random.nextBoolean() ? call(name, far, someMail()) : call(name, someMail(), far);
     }
 

@@ -8,18 +8,6 @@ import java.util.function.Supplier;
  * the many questions are shared out among objects on which the same calls have been made.
  */
 final class Replay {
-    private static final int MOST_CALLS = 512;
-    private static final String[] ASK_ALL = {
-        "mails", "missing", "talk", "talkByOrigins", "threads", "newShare", "meanSize",
-    };
-    private static final String[] ASK_MAIL = {
-        "lines", "parent", "aligned", "alignedByTrying", "signature", "root", "rootByRounds",
-        "size",
-    };
-    private static final String[] ASK_LINE = {
-        "word", "partner", "originMail", "originLine", "kind", "answersMail", "answersLine",
-        "answers", "copies",
-    };
     /** Changes of every mail, whether it is there or not, that show what a question can't. */
     private static final List<String> CHANGES = changes();
     /** Mails of all dates, which show by what they are refused which dates are had. */
@@ -53,7 +41,7 @@ final class Replay {
     }
 
     private static String answers(Supplier<?> maker, List<String> calls, List<String> questions) {
-        int portion = MOST_CALLS - calls.size();
+        int portion = Calls.MOST - calls.size();
         if (portion < ARRIVALS.size()) {
             throw new IllegalArgumentException("too many calls ahead of the questions");
         }
@@ -72,17 +60,17 @@ final class Replay {
 
     private static List<String> questions(Object reader) {
         List<String> questions = new ArrayList<>();
-        for (String name : ASK_ALL) {
+        for (String name : Calls.ASK_ALL) {
             questions.add(name + "()");
         }
         int mails = Integer.parseInt(Calls.answer(reader, "mails()"));
         for (int mail = 0; mail < mails; mail++) {
-            for (String name : ASK_MAIL) {
+            for (String name : Calls.ASK_MAIL) {
                 questions.add(name + "(" + mail + ")");
             }
             int lines = Integer.parseInt(Calls.answer(reader, "lines(" + mail + ")"));
             for (int line = 0; line < lines; line++) {
-                for (String name : ASK_LINE) {
+                for (String name : Calls.ASK_LINE) {
                     questions.add(name + "(" + mail + ", " + line + ")");
                 }
             }

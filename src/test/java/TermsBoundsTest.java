@@ -86,16 +86,13 @@ final class TermsBoundsTest {
 
     private static void questions(Results results) {
         List<String> rows = new ArrayList<>(List.of(Boxes.FULL));
-        for (String name : new String[] {"mails", "missing", "talk", "talkByOrigins", "threads",
-            "newShare", "meanSize"}) {
+        for (String name : Calls.ASK_ALL) {
             rows.add(name + "()");
         }
-        for (String name : new String[] {"lines", "parent", "aligned", "alignedByTrying",
-            "signature", "root", "rootByRounds", "size"}) {
+        for (String name : Calls.ASK_MAIL) {
             rows.addAll(List.of(name + "(0)", name + "(9)", name + "(5)", name + "(10)"));
         }
-        for (String name : new String[] {"word", "partner", "originMail", "originLine", "kind",
-            "answersMail", "answersLine", "answers", "copies"}) {
+        for (String name : Calls.ASK_LINE) {
             rows.addAll(List.of(name + "(0, 0)", name + "(0, 7)", name + "(9, 0)",
                     name + "(9, 7)", name + "(4, 3)", name + "(9, 8)"));
         }
