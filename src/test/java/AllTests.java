@@ -10,6 +10,7 @@ public final class AllTests {
         FaceTest.run(results);
         LanguageTest.run(results);
         ReadmeTest.run(results);
+        ThrowsTest.run(results);
         OverviewTest.run(results);
         MailsTest.run(results);
         QuotingTest.run(results);

@@ -1,5 +1,4 @@
 import java.lang.reflect.InvocationTargetException;
-import java.lang.reflect.Method;
 
 /**
  * Makes calls that are written as text, such as "addLine(0, 1, 5)", on any object that has the
@@ -43,6 +42,25 @@ final class Calls {
     }
 
     static String answerTo(Object reader, String name, int... arguments) {
+        try {
+            return String.valueOf(invoke(reader, name, arguments));
+        } catch (InvocationTargetException thrown) {
+            return "throws." + thrown.getCause().getClass().getSimpleName();
+        }
+    }
+
+    /** What a call throws; null if it answers. */
+    static Throwable thrownBy(Object reader, String name, int... arguments) {
+        try {
+            invoke(reader, name, arguments);
+            return null;
+        } catch (InvocationTargetException thrown) {
+            return thrown.getCause();
+        }
+    }
+
+    private static Object invoke(Object reader, String name, int... arguments)
+            throws InvocationTargetException {
         Class<?>[] types = new Class<?>[arguments.length];
         Object[] values = new Object[arguments.length];
         for (int i = 0; i < arguments.length; i++) {
@@ -50,11 +68,8 @@ final class Calls {
             values[i] = arguments[i];
         }
         try {
-            Method method = reader.getClass().getDeclaredMethod(name, types);
-            return String.valueOf(method.invoke(reader, values));
-        } catch (InvocationTargetException thrown) {
-            return "throws." + thrown.getCause().getClass().getSimpleName();
-        } catch (ReflectiveOperationException unfit) {
+            return reader.getClass().getDeclaredMethod(name, types).invoke(reader, values);
+        } catch (NoSuchMethodException | IllegalAccessException unfit) {
             throw new IllegalArgumentException("no such call: " + name, unfit);
         }
     }

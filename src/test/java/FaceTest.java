@@ -1,11 +1,7 @@
-import java.io.IOException;
-import java.io.UncheckedIOException;
 import java.lang.reflect.Constructor;
 import java.lang.reflect.Field;
 import java.lang.reflect.Method;
 import java.lang.reflect.Modifier;
-import java.nio.file.Files;
-import java.nio.file.Path;
 import java.util.ArrayList;
 import java.util.Arrays;
 import java.util.HashSet;
@@ -88,7 +84,7 @@ final class FaceTest {
 
     private static String interfaceFaults() {
         List<String> got = new ArrayList<>();
-        for (String line : programLines()) {
+        for (String line : Texts.read(Texts.PROGRAM).split("\n")) {
             Matcher said = SAID.matcher(line);
             if (said.matches() && got.size() < INTERFACE.length) {
                 got.add(said.group(1) == null ? said.group(2) : said.group(1));
@@ -96,14 +92,6 @@ final class FaceTest {
         }
         List<String> due = Arrays.asList(INTERFACE);
         return got.equals(due) ? "" : "  got " + got + "\n  due " + due;
-    }
-
-    private static List<String> programLines() {
-        try {
-            return Files.readAllLines(Path.of("src/main/java/TalkRebuilder.java"));
-        } catch (IOException unread) {
-            throw new UncheckedIOException(unread);
-        }
     }
 
     private static String differences() {

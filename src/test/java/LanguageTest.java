@@ -48,11 +48,12 @@ import javax.tools.ToolProvider;
  * more than the program needs, the test may be narrower; its name says so.
  */
 final class LanguageTest extends TreePathScanner<Void, Void> {
-    private static final String PROGRAM = "src/main/java/TalkRebuilder.java";
     private static final Set<String> THROWN = Set.of("IllegalStateException",
             "IllegalArgumentException", "IndexOutOfBoundsException", "ArithmeticException",
             "UnsupportedOperationException", "NoSuchElementException", "RuntimeException");
     private static final Set<String> LIBRARY = Set.of("java.lang.Math.max", "java.lang.Math.min");
+    private static final Set<String> TYPES = Set.of("void", "int", "boolean", "char", "float",
+            "double", "int[]", "int[][]", "boolean[]", "Alignment");
     private static final int MOST_PARAMETERS = 7;
     private static final int MOST_LINES = 60;
     private static final int MOST_DEPTH = 8;
@@ -60,6 +61,8 @@ final class LanguageTest extends TreePathScanner<Void, Void> {
     private static final int MOST_FIELDS = 20;
 
     private static final String NO_LAMBDA = "rule 2 | no lambda, no method reference";
+    private static final String FEW_TYPES = "rule 3 | Types | narrower: numbers, arrays of them and"
+            + " the program's own class";
     private static final String LITTLE_LIBRARY = "rule 4 | only what stands here | narrower: one"
             + " import, Math.max and Math.min";
     private static final String PLAIN_SIGNS = "rule 4 | constants, whose signs are 1 to 127";
@@ -89,9 +92,9 @@ final class LanguageTest extends TreePathScanner<Void, Void> {
 
     private LanguageTest(Trees trees) {
         this.trees = trees;
-        for (String rule : new String[] {NO_LAMBDA, LITTLE_LIBRARY, PLAIN_SIGNS, NO_STATICS,
-            PLAIN_THROWS, NO_CATCH, OWN_NAMES, RECURSION, LOOPS, NO_JOINS, SMALL, DEPTH,
-            NOTHING_MADE}) {
+        for (String rule : new String[] {NO_LAMBDA, FEW_TYPES, LITTLE_LIBRARY, PLAIN_SIGNS,
+            NO_STATICS, PLAIN_THROWS, NO_CATCH, OWN_NAMES, RECURSION, LOOPS, NO_JOINS, SMALL,
+            DEPTH, NOTHING_MADE}) {
             faults.put(rule, new StringBuilder());
         }
     }
@@ -100,7 +103,7 @@ final class LanguageTest extends TreePathScanner<Void, Void> {
         JavaCompiler compiler = ToolProvider.getSystemJavaCompiler();
         try (StandardJavaFileManager files = compiler.getStandardFileManager(null, null, null)) {
             JavacTask task = (JavacTask) compiler.getTask(null, files, null,
-                    List.of("-proc:none"), null, files.getJavaFileObjects(PROGRAM));
+                    List.of("-proc:none"), null, files.getJavaFileObjects(Texts.PROGRAM));
             Iterable<? extends CompilationUnitTree> units = task.parse();
             task.analyze();
             LanguageTest test = new LanguageTest(Trees.instance(task));
@@ -169,6 +172,7 @@ final class LanguageTest extends TreePathScanner<Void, Void> {
     public Void visitVariable(VariableTree tree, Void none) {
         Set<Modifier> flags = tree.getModifiers().getFlags();
         allow(!flags.contains(Modifier.STATIC) || flags.contains(Modifier.FINAL), NO_STATICS, tree);
+        allow(TYPES.contains(String.valueOf(tree.getType())), FEW_TYPES, tree);
         return super.visitVariable(tree, none);
     }
 
@@ -185,6 +189,8 @@ final class LanguageTest extends TreePathScanner<Void, Void> {
         long lines = tree.toString().lines().count();
         allow(tree.getParameters().size() <= MOST_PARAMETERS, SMALL, name);
         allow(lines <= MOST_LINES, SMALL, name + " has " + lines + " lines");
+        Tree answer = tree.getReturnType();
+        allow(answer == null || TYPES.contains(answer.toString()), FEW_TYPES, name);
         allow(!List.of("equals", "hashCode", "toString").contains(name), OWN_NAMES, name);
         allow(!tree.getModifiers().getFlags().contains(Modifier.SYNCHRONIZED), NO_CATCH, name);
         return super.visitMethod(tree, none);

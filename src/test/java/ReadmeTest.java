@@ -1,9 +1,5 @@
-import java.io.IOException;
-import java.io.UncheckedIOException;
 import java.lang.reflect.Method;
 import java.lang.reflect.Modifier;
-import java.nio.file.Files;
-import java.nio.file.Path;
 import java.util.HashMap;
 import java.util.Map;
 import java.util.regex.Matcher;
@@ -22,17 +18,9 @@ final class ReadmeTest {
     }
 
     static void run(Results results) {
-        String page = page();
+        String page = Texts.read(Texts.README);
         results.record("README.md | the example answers what it says", exampleFaults(page));
         results.record("README.md | each call is named", namesMissing(page));
-    }
-
-    private static String page() {
-        try {
-            return Files.readString(Path.of("README.md"));
-        } catch (IOException unread) {
-            throw new UncheckedIOException(unread);
-        }
     }
 
     private static String exampleFaults(String page) {
